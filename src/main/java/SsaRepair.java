@@ -14,10 +14,10 @@ public final class SsaRepair {
     private static final int INITIAL = 2000;
     private static final int NONE = -1;
 
-    private final Graph graph = new Graph();
-    private final Flow flow = new Flow(graph);
-    private final Graph previous = new Graph();
-    private final Flow previousFlow = new Flow(previous);
+    private final Flow flow = new Flow();
+    private final Graph graph = flow.graph;
+    private final Flow previousFlow = new Flow();
+    private final Graph previous = previousFlow.graph;
     private final Graph saved = new Graph();
     private boolean isSaved = false;
     private final History history = new History();
@@ -626,7 +626,7 @@ public final class SsaRepair {
     }
 
     private static final class Flow {
-        private final Graph graph;
+        final Graph graph = new Graph();
         int reachable = 0;
         private final int[] successors = new int[MAX_BLOCKS];
         final int[] sourcesOfEdges = new int[MAX_BLOCKS];
@@ -639,10 +639,6 @@ public final class SsaRepair {
         final int[] minimal = new int[VARIABLES];
         final int[] pruned = new int[VARIABLES];
         private final int[] needed = new int[MAX_BLOCKS];
-
-        Flow(Graph graph) {
-            this.graph = graph;
-        }
 
         void analyse() {
             findReachable();
