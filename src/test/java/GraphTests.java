@@ -34,6 +34,9 @@ public final class GraphTests {
         Check.is("1: mergeCount", x.mergeCount(), 0);
         Check.is("1: unneeded", x.unneeded(), 0);
         Check.is("1: walkEnd", x.walkEnd(), 0);
+        Check.is("1: clearWalk", x.clearWalk(), 0);
+        Check.is("1: input is empty", x.append('a'), 1);
+        Check.is("1: newlyReachable", x.newlyReachable(), 0);
         Check.fails("1: undo", MISSING, x::undo);
         Check.fails("1: restore", STATE, x::restore);
         Check.fails("1: errorPosition", MISSING, x::errorPosition);
@@ -194,6 +197,11 @@ public final class GraphTests {
         SsaRepair y = Check.graph(1, "a:d0u1d2u3d1u2");
         Check.is("7: in the middle of six", y.removeAction(0, 2), 5);
         Check.is("7: six", Check.show(y), "a:d0u1u3d1u2");
+        SsaRepair z = Check.graph(14, "n:d0u1d2u3d1u2>bcd");
+        Check.is("7: the last row is full", z.removeAction(13, 0), 5);
+        Check.is("9: the last row is full", z.removeEdge(13, 2), 2);
+        Check.is("7: first of the last row", z.action(13, 0), 11);
+        Check.is("9: first of the last row", z.target(13, 0), 1);
     }
 
     private static void addEdge() {

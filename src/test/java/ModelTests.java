@@ -45,7 +45,9 @@ public final class ModelTests {
     }
 
     private void run() throws Exception {
-        call("reset", random.nextInt(10) == 0 ? random.nextInt(14) + 1 : random.nextInt(11) + 4);
+        if (random.nextInt(20) != 0) {
+            call("reset", random.nextInt(10) == 0 ? random.nextInt(14) + 1 : random.nextInt(11) + 4);
+        }
         for (int block = 0; block < model.blockCount(); block++) {
             typeLine(block);
         }
@@ -54,7 +56,7 @@ public final class ModelTests {
             if (kind < 12) {
                 change();
             } else if (kind < 13) {
-                call(RARE.get(random.nextInt(3)));
+                rarely();
             } else if (kind < 14) {
                 call("append", (char) (random.nextInt(4) == 0 ? random.nextInt(200) : 'a'));
             } else if (kind < 24) {
@@ -62,6 +64,17 @@ public final class ModelTests {
             } else {
                 call(questions.get(random.nextInt(questions.size())).getName());
             }
+        }
+    }
+
+    /** A saved graph comes back soon, so that the run goes on with more than an empty graph. */
+    private void rarely() throws Exception {
+        if (random.nextInt(3) > 0) {
+            call("save");
+        }
+        call(RARE.get(random.nextInt(3)));
+        if (random.nextInt(4) > 0) {
+            call("restore");
         }
     }
 
