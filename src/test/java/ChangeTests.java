@@ -1,12 +1,5 @@
-import java.util.NoSuchElementException;
-
 /** Promises 33 to 46: reports of changes, undo, walks and saving. */
 public final class ChangeTests {
-    private static final Class<?> INDEX = IndexOutOfBoundsException.class;
-    private static final Class<?> ARGUMENT = IllegalArgumentException.class;
-    private static final Class<?> STATE = IllegalStateException.class;
-    private static final Class<?> MISSING = NoSuchElementException.class;
-
     public static void main(String[] args) {
         reportOfThreading();
         reportOfEdges();
@@ -88,7 +81,7 @@ public final class ChangeTests {
         report("restore", x, 0, 0, 0, 0);
         x.addEdge(0, 2);
         report("another change", x, 0, 0, 0, Check.set(2));
-        Check.fails("36: a failing change", ARGUMENT, () -> x.addEdge(0, 2));
+        Check.fails("36: a failing change", Check.ARGUMENT, () -> x.addEdge(0, 2));
         report("a failing change leaves it", x, 0, 0, 0, Check.set(2));
         x.undo();
         report("all undone", x, 0, 0, 0, 0);
@@ -96,9 +89,9 @@ public final class ChangeTests {
 
     private static void undo() {
         SsaRepair x = new SsaRepair();
-        Check.fails("37: nothing", MISSING, x::undo);
+        Check.fails("37: nothing", Check.MISSING, x::undo);
         x.reset(3);
-        Check.fails("37: reset is no change", MISSING, x::undo);
+        Check.fails("37: reset is no change", Check.MISSING, x::undo);
         Check.define(x, "a:u0>b");
         x.addEdge(0, 2);
         x.thread(0, 1, 1 + x.addEdge(1, 2) + 1);
@@ -112,7 +105,7 @@ public final class ChangeTests {
         Check.is("37: addEdge again", x.undo(), 1);
         Check.is("37: define", x.undo(), 0);
         Check.is("37: graph after all", Check.show(x), "a: b: c:");
-        Check.fails("37: no more", MISSING, x::undo);
+        Check.fails("37: no more", Check.MISSING, x::undo);
     }
 
     private static void undoOfEight() {
@@ -127,7 +120,7 @@ public final class ChangeTests {
         for (int left = 6; left >= 0; left--) {
             Check.is("37: left", x.undo(), left);
         }
-        Check.fails("37: the ninth", MISSING, x::undo);
+        Check.fails("37: the ninth", Check.MISSING, x::undo);
         Check.is("37: two stay", Check.show(x), "a: b:>l c:>l d: e: f: g: h: i: j: k: l:");
         report("a change that is not remembered", x, 0, 0, 0, 0);
     }
@@ -135,14 +128,14 @@ public final class ChangeTests {
     private static void walk() {
         SsaRepair x = Check.graph(4, "a:>bc", "b:>b", "c:>d");
         Check.is("40: new", x.walkEnd(), 0);
-        Check.fails("38: edge 2", MISSING, () -> x.walk(2));
-        Check.fails("38: edge -1", MISSING, () -> x.walk(-1));
-        Check.fails("38: largest int", MISSING, () -> x.walk(Integer.MAX_VALUE));
+        Check.fails("38: edge 2", Check.MISSING, () -> x.walk(2));
+        Check.fails("38: edge -1", Check.MISSING, () -> x.walk(-1));
+        Check.fails("38: largest int", Check.MISSING, () -> x.walk(Integer.MAX_VALUE));
         Check.is("38: second edge", x.walk(1), 2);
         Check.is("40: c", x.walkEnd(), 2);
-        Check.fails("38: edge 1 of c", MISSING, () -> x.walk(1));
+        Check.fails("38: edge 1 of c", Check.MISSING, () -> x.walk(1));
         Check.is("38: d", x.walk(0), 3);
-        Check.fails("38: no edge", MISSING, () -> x.walk(0));
+        Check.fails("38: no edge", Check.MISSING, () -> x.walk(0));
         Check.is("40: d", x.walkEnd(), 3);
         Check.is("39: two", x.clearWalk(), 2);
         Check.is("39: none", x.clearWalk(), 0);
@@ -159,8 +152,8 @@ public final class ChangeTests {
         for (int choice = 0; choice < 30; choice++) {
             Check.is("38: choice", x.walk(0), 1);
         }
-        Check.fails("38: the 31st", STATE, () -> x.walk(0));
-        Check.fails("38: the 31st, and no such edge", STATE, () -> x.walk(5));
+        Check.fails("38: the 31st", Check.STATE, () -> x.walk(0));
+        Check.fails("38: the 31st, and no such edge", Check.STATE, () -> x.walk(5));
         Check.is("41: behind 30", x.lastOnWalk(1), 0);
         Check.is("39: 30", x.clearWalk(), 30);
         Check.is("38: again", x.walk(0), 1);
@@ -184,8 +177,8 @@ public final class ChangeTests {
         Check.is("42: of another", x.mergesOnWalk(0), 0);
         Check.is("41: of 3", x.lastOnWalk(3), 2000);
         for (int variable : new int[] {-1, 4, Integer.MAX_VALUE, Integer.MIN_VALUE}) {
-            Check.fails("41: " + variable, INDEX, () -> x.lastOnWalk(variable));
-            Check.fails("42: " + variable, INDEX, () -> x.mergesOnWalk(variable));
+            Check.fails("41: " + variable, Check.INDEX, () -> x.lastOnWalk(variable));
+            Check.fails("42: " + variable, Check.INDEX, () -> x.mergesOnWalk(variable));
         }
     }
 
@@ -200,10 +193,10 @@ public final class ChangeTests {
         Check.is("43: unreachable, none", x.walks(4, 0), 0L);
         Check.is("43: again", x.walks(1, 2), 3L);
         Check.is("43: walk is left alone", x.clearWalk(), 0);
-        Check.fails("43: -1", ARGUMENT, () -> x.walks(0, -1));
-        Check.fails("43: 31", ARGUMENT, () -> x.walks(0, 31));
-        Check.fails("43: block 5", INDEX, () -> x.walks(5, 0));
-        Check.fails("43: block -1 and 31", INDEX, () -> x.walks(-1, 31));
+        Check.fails("43: -1", Check.ARGUMENT, () -> x.walks(0, -1));
+        Check.fails("43: 31", Check.ARGUMENT, () -> x.walks(0, 31));
+        Check.fails("43: block 5", Check.INDEX, () -> x.walks(5, 0));
+        Check.fails("43: block -1 and 31", Check.INDEX, () -> x.walks(-1, 31));
     }
 
     private static void density() {
@@ -220,7 +213,7 @@ public final class ChangeTests {
 
     private static void saving() {
         SsaRepair x = new SsaRepair();
-        Check.fails("46: nothing saved", STATE, x::restore);
+        Check.fails("46: nothing saved", Check.STATE, x::restore);
         x.reset(3);
         Check.define(x, "a:u0d1>bc");
         Check.is("45: answer", x.save(), 3);
@@ -235,7 +228,7 @@ public final class ChangeTests {
         Check.is("46: dominators follow", x.parent(2), 0);
         Check.is("46: walk is empty", x.clearWalk(), 0);
         Check.is("46: input stays", x.append('d'), 3);
-        Check.fails("46: changes are forgotten", MISSING, x::undo);
+        Check.fails("46: changes are forgotten", Check.MISSING, x::undo);
         x.removeAction(0, 0);
         Check.is("46: stays saved", x.restore(), 3);
         Check.is("46: as it was", Check.show(x), "a:u0d1>bc b: c:");

@@ -1,5 +1,7 @@
 import java.util.ArrayList;
 import java.util.List;
+import java.util.NoSuchElementException;
+import java.util.function.Supplier;
 
 /** What the project's tests share: comparing answers, expecting exceptions, and building graphs from lines. */
 final class Check {
@@ -7,28 +9,53 @@ final class Check {
         void run();
     }
 
+    static final Class<?> INDEX = IndexOutOfBoundsException.class;
+    static final Class<?> ARGUMENT = IllegalArgumentException.class;
+    static final Class<?> STATE = IllegalStateException.class;
+    static final Class<?> MISSING = NoSuchElementException.class;
+
     private static int checks = 0;
+    private static String place = "";
     private static final List<String> faults = new ArrayList<>();
 
     private Check() {
     }
 
+    /** Stands before what each following check says. */
+    static void at(String words) {
+        place = words;
+    }
+
+    static int count() {
+        return checks;
+    }
+
     static void is(String what, Object got, Object due) {
         checks++;
         if (!got.equals(due)) {
-            faults.add(what + " answered " + got + ", due is " + due);
+            faults.add(place + what + " answered " + got + ", due is " + due);
         }
     }
 
-    /** The exact class counts: an exception of the machine is a subclass of one that the document names. */
     static void fails(String what, Class<?> due, Call call) {
-        String got = "nothing";
-        try {
+        is(what, answer(() -> {
             call.run();
+            return "nothing";
+        }), "throws." + due.getSimpleName());
+    }
+
+    /** The exact class counts: an exception of the machine is a subclass of one that the document names. */
+    static String answer(Supplier<Object> call) {
+        try {
+            return String.valueOf(call.get());
         } catch (RuntimeException e) {
-            got = e.getClass().getSimpleName();
+            return "throws." + e.getClass().getSimpleName();
         }
-        is(what + " throws", got, due.getSimpleName());
+    }
+
+    /** Numbers that are not 0 to count - 1: beside it, far away, and those that a shift takes for one of it. */
+    static int[] outside(int count) {
+        return new int[] {-1, count, count + 1, 31, 32, 33, 64, -31, -32, Integer.MAX_VALUE, Integer.MIN_VALUE};
     }
 
     /** Each line is given to define; the graph has the given number of blocks. */
@@ -55,14 +82,17 @@ final class Check {
     /** The whole graph as text, to see that a call left it alone. */
     static String show(SsaRepair x) {
         StringBuilder text = new StringBuilder();
-        for (int block = 0; block < x.blockCount(); block++) {
+        int blocks = x.blockCount();
+        for (int block = 0; block < blocks; block++) {
             text.append((char) ('a' + block)).append(':');
-            for (int action = 0; action < x.actionCount(block); action++) {
+            int actions = x.actionCount(block);
+            for (int action = 0; action < actions; action++) {
                 int found = x.action(block, action);
                 text.append(found < 10 ? 'd' : 'u').append(found % 10);
             }
-            text.append(x.edgeCount(block) > 0 ? ">" : "");
-            for (int edge = 0; edge < x.edgeCount(block); edge++) {
+            int edges = x.edgeCount(block);
+            text.append(edges > 0 ? ">" : "");
+            for (int edge = 0; edge < edges; edge++) {
                 text.append((char) ('a' + x.target(block, edge)));
             }
             text.append(' ');

@@ -1,11 +1,5 @@
-import java.util.NoSuchElementException;
-
 /** Promises 15 to 32: dominators, merges, sources and reaching definitions. */
 public final class FlowTests {
-    private static final Class<?> INDEX = IndexOutOfBoundsException.class;
-    private static final Class<?> STATE = IllegalStateException.class;
-    private static final Class<?> MISSING = NoSuchElementException.class;
-
     public static void main(String[] args) {
         reachable();
         dominators();
@@ -158,16 +152,16 @@ public final class FlowTests {
         SsaRepair x = diamond();
         Check.is("26: for b", x.operand(3, 0, 1), 10);
         Check.is("26: for c", x.operand(3, 0, 2), 0);
-        Check.fails("26: f is no predecessor", MISSING, () -> x.operand(3, 0, 5));
-        Check.fails("26: d is no predecessor", MISSING, () -> x.operand(3, 0, 3));
-        Check.fails("26: no block 6", MISSING, () -> x.operand(3, 0, 6));
-        Check.fails("26: no block 33, which a shift by 33 would take for b", MISSING, () -> x.operand(3, 0, 33));
-        Check.fails("26: no block -1", MISSING, () -> x.operand(3, 0, -1));
-        Check.fails("26: no merge", MISSING, () -> x.operand(4, 0, 3));
-        Check.fails("26: no merge of 1", MISSING, () -> x.operand(3, 1, 1));
+        Check.fails("26: f is no predecessor", Check.MISSING, () -> x.operand(3, 0, 5));
+        Check.fails("26: d is no predecessor", Check.MISSING, () -> x.operand(3, 0, 3));
+        Check.fails("26: no block 6", Check.MISSING, () -> x.operand(3, 0, 6));
+        Check.fails("26: no block 33, which a shift by 33 would take for b", Check.MISSING, () -> x.operand(3, 0, 33));
+        Check.fails("26: no block -1", Check.MISSING, () -> x.operand(3, 0, -1));
+        Check.fails("26: no merge", Check.MISSING, () -> x.operand(4, 0, 3));
+        Check.fails("26: no merge of 1", Check.MISSING, () -> x.operand(3, 1, 1));
         Check.is("27: two", x.differentOperands(3, 0), 2);
-        Check.fails("27: no merge", MISSING, () -> x.differentOperands(4, 0));
-        Check.fails("27: no merge of 1", MISSING, () -> x.differentOperands(3, 1));
+        Check.fails("27: no merge", Check.MISSING, () -> x.differentOperands(4, 0));
+        Check.fails("27: no merge of 1", Check.MISSING, () -> x.differentOperands(3, 1));
         SsaRepair same = Check.graph(6, "a:>bcd", "b:>e", "c:>e", "d:d0>e", "e:u0");
         Check.is("27: three edges, two operands", same.differentOperands(4, 0), 2);
         SsaRepair loop = Check.graph(4, "a:d1>bc", "b:>c", "c:>bd", "d:u1");
@@ -204,10 +198,10 @@ public final class FlowTests {
         Check.is("30: of 1", x.reachingCount(4, 1), 0);
         Check.is("31: first", x.reaching(3, 0, 0), 0);
         Check.is("31: second", x.reaching(3, 0, 1), 10);
-        Check.fails("31: third", MISSING, () -> x.reaching(3, 0, 2));
-        Check.fails("31: -1", MISSING, () -> x.reaching(3, 0, -1));
-        Check.fails("31: least int", MISSING, () -> x.reaching(3, 0, Integer.MIN_VALUE));
-        Check.fails("31: at a", MISSING, () -> x.reaching(0, 0, 0));
+        Check.fails("31: third", Check.MISSING, () -> x.reaching(3, 0, 2));
+        Check.fails("31: -1", Check.MISSING, () -> x.reaching(3, 0, -1));
+        Check.fails("31: least int", Check.MISSING, () -> x.reaching(3, 0, Integer.MIN_VALUE));
+        Check.fails("31: at a", Check.MISSING, () -> x.reaching(0, 0, 0));
         Check.is("32: at a", x.isInitialReaching(0, 0), true);
         Check.is("32: at b", x.isInitialReaching(1, 0), false);
         Check.is("32: at d of 1", x.isInitialReaching(3, 1), true);
@@ -233,70 +227,70 @@ public final class FlowTests {
         Check.is("21: no merge from an unreachable block", x.minimalMerges(0), 0);
         Check.is("30: no definition from one", x.reachingCount(1, 0), 0);
         Check.is("25: source", x.sourceOfUse(1, 0), 2000);
-        Check.fails("16", STATE, () -> x.predecessors(2));
-        Check.fails("17: first", STATE, () -> x.dominates(2, 1));
-        Check.fails("17: second", STATE, () -> x.dominates(0, 2));
-        Check.fails("18", STATE, () -> x.parent(2));
-        Check.fails("19", STATE, () -> x.frontier(2));
-        Check.fails("20", STATE, () -> x.isLive(3, 1));
-        Check.fails("24", STATE, () -> x.source(2, 0, true));
-        Check.fails("25", STATE, () -> x.sourceOfUse(3, 0));
-        Check.fails("26", STATE, () -> x.operand(2, 0, 3));
-        Check.fails("27", STATE, () -> x.differentOperands(2, 0));
-        Check.fails("30", STATE, () -> x.reachingCount(2, 0));
-        Check.fails("31", STATE, () -> x.reaching(2, 0, 0));
-        Check.fails("32", STATE, () -> x.isInitialReaching(2, 0));
+        Check.fails("16", Check.STATE, () -> x.predecessors(2));
+        Check.fails("17: first", Check.STATE, () -> x.dominates(2, 1));
+        Check.fails("17: second", Check.STATE, () -> x.dominates(0, 2));
+        Check.fails("18", Check.STATE, () -> x.parent(2));
+        Check.fails("19", Check.STATE, () -> x.frontier(2));
+        Check.fails("20", Check.STATE, () -> x.isLive(3, 1));
+        Check.fails("24", Check.STATE, () -> x.source(2, 0, true));
+        Check.fails("25", Check.STATE, () -> x.sourceOfUse(3, 0));
+        Check.fails("26", Check.STATE, () -> x.operand(2, 0, 3));
+        Check.fails("27", Check.STATE, () -> x.differentOperands(2, 0));
+        Check.fails("30", Check.STATE, () -> x.reachingCount(2, 0));
+        Check.fails("31", Check.STATE, () -> x.reaching(2, 0, 0));
+        Check.fails("32", Check.STATE, () -> x.isInitialReaching(2, 0));
     }
 
     private static void wrongArguments() {
         SsaRepair x = diamond();
         for (int block : new int[] {-1, 6, 14, 32, Integer.MAX_VALUE, Integer.MIN_VALUE}) {
-            Check.fails("15: " + block, INDEX, () -> x.isReachable(block));
-            Check.fails("16: " + block, INDEX, () -> x.predecessors(block));
-            Check.fails("17: first " + block, INDEX, () -> x.dominates(block, 0));
-            Check.fails("17: second " + block, INDEX, () -> x.dominates(0, block));
-            Check.fails("18: " + block, INDEX, () -> x.parent(block));
-            Check.fails("19: " + block, INDEX, () -> x.frontier(block));
-            Check.fails("20: " + block, INDEX, () -> x.isLive(block, 0));
-            Check.fails("24: " + block, INDEX, () -> x.source(block, 0, false));
-            Check.fails("25: " + block, INDEX, () -> x.sourceOfUse(block, 0));
-            Check.fails("25: action " + block, INDEX, () -> x.sourceOfUse(3, block));
-            Check.fails("26: " + block, INDEX, () -> x.operand(block, 0, 1));
-            Check.fails("27: " + block, INDEX, () -> x.differentOperands(block, 0));
-            Check.fails("30: " + block, INDEX, () -> x.reachingCount(block, 0));
-            Check.fails("31: " + block, INDEX, () -> x.reaching(block, 0, 0));
-            Check.fails("32: " + block, INDEX, () -> x.isInitialReaching(block, 0));
+            Check.fails("15: " + block, Check.INDEX, () -> x.isReachable(block));
+            Check.fails("16: " + block, Check.INDEX, () -> x.predecessors(block));
+            Check.fails("17: first " + block, Check.INDEX, () -> x.dominates(block, 0));
+            Check.fails("17: second " + block, Check.INDEX, () -> x.dominates(0, block));
+            Check.fails("18: " + block, Check.INDEX, () -> x.parent(block));
+            Check.fails("19: " + block, Check.INDEX, () -> x.frontier(block));
+            Check.fails("20: " + block, Check.INDEX, () -> x.isLive(block, 0));
+            Check.fails("24: " + block, Check.INDEX, () -> x.source(block, 0, false));
+            Check.fails("25: " + block, Check.INDEX, () -> x.sourceOfUse(block, 0));
+            Check.fails("25: action " + block, Check.INDEX, () -> x.sourceOfUse(3, block));
+            Check.fails("26: " + block, Check.INDEX, () -> x.operand(block, 0, 1));
+            Check.fails("27: " + block, Check.INDEX, () -> x.differentOperands(block, 0));
+            Check.fails("30: " + block, Check.INDEX, () -> x.reachingCount(block, 0));
+            Check.fails("31: " + block, Check.INDEX, () -> x.reaching(block, 0, 0));
+            Check.fails("32: " + block, Check.INDEX, () -> x.isInitialReaching(block, 0));
         }
         for (int variable : new int[] {-1, 4, Integer.MAX_VALUE, Integer.MIN_VALUE}) {
-            Check.fails("20: variable " + variable, INDEX, () -> x.isLive(0, variable));
-            Check.fails("21: " + variable, INDEX, () -> x.minimalMerges(variable));
-            Check.fails("22: " + variable, INDEX, () -> x.merges(variable));
-            Check.fails("24: variable " + variable, INDEX, () -> x.source(0, variable, true));
-            Check.fails("26: variable " + variable, INDEX, () -> x.operand(3, variable, 1));
-            Check.fails("27: variable " + variable, INDEX, () -> x.differentOperands(3, variable));
-            Check.fails("28: " + variable, INDEX, () -> x.usesOf(variable, 0));
-            Check.fails("30: variable " + variable, INDEX, () -> x.reachingCount(0, variable));
-            Check.fails("31: variable " + variable, INDEX, () -> x.reaching(0, variable, 0));
-            Check.fails("32: variable " + variable, INDEX, () -> x.isInitialReaching(0, variable));
+            Check.fails("20: variable " + variable, Check.INDEX, () -> x.isLive(0, variable));
+            Check.fails("21: " + variable, Check.INDEX, () -> x.minimalMerges(variable));
+            Check.fails("22: " + variable, Check.INDEX, () -> x.merges(variable));
+            Check.fails("24: variable " + variable, Check.INDEX, () -> x.source(0, variable, true));
+            Check.fails("26: variable " + variable, Check.INDEX, () -> x.operand(3, variable, 1));
+            Check.fails("27: variable " + variable, Check.INDEX, () -> x.differentOperands(3, variable));
+            Check.fails("28: " + variable, Check.INDEX, () -> x.usesOf(variable, 0));
+            Check.fails("30: variable " + variable, Check.INDEX, () -> x.reachingCount(0, variable));
+            Check.fails("31: variable " + variable, Check.INDEX, () -> x.reaching(0, variable, 0));
+            Check.fails("32: variable " + variable, Check.INDEX, () -> x.isInitialReaching(0, variable));
         }
-        Check.fails("18: block 0", MISSING, () -> x.parent(0));
-        Check.fails("25: a definition", MISSING, () -> x.sourceOfUse(0, 0));
+        Check.fails("18: block 0", Check.MISSING, () -> x.parent(0));
+        Check.fails("25: a definition", Check.MISSING, () -> x.sourceOfUse(0, 0));
     }
 
     private static void orderOfExceptions() {
         SsaRepair x = diamond();
-        Check.fails("17: unreachable and none", INDEX, () -> x.dominates(5, 6));
-        Check.fails("17: none and unreachable", INDEX, () -> x.dominates(6, 5));
-        Check.fails("20: unreachable, no variable", INDEX, () -> x.isLive(5, 4));
-        Check.fails("24: unreachable, no variable", INDEX, () -> x.source(5, -1, true));
-        Check.fails("25: unreachable, no action", INDEX, () -> x.sourceOfUse(5, 1));
-        Check.fails("25: unreachable, no use", STATE, () -> x.sourceOfUse(5, 0));
-        Check.fails("26: unreachable, no variable", INDEX, () -> x.operand(5, 4, 9));
-        Check.fails("26: unreachable, no predecessor", STATE, () -> x.operand(5, 0, 9));
-        Check.fails("27: unreachable, no variable", INDEX, () -> x.differentOperands(5, 4));
-        Check.fails("30: unreachable, no variable", INDEX, () -> x.reachingCount(5, 4));
-        Check.fails("31: unreachable, no variable", INDEX, () -> x.reaching(5, 4, 0));
-        Check.fails("31: unreachable, no index", STATE, () -> x.reaching(5, 0, -1));
-        Check.fails("32: unreachable, no variable", INDEX, () -> x.isInitialReaching(5, 4));
+        Check.fails("17: unreachable and none", Check.INDEX, () -> x.dominates(5, 6));
+        Check.fails("17: none and unreachable", Check.INDEX, () -> x.dominates(6, 5));
+        Check.fails("20: unreachable, no variable", Check.INDEX, () -> x.isLive(5, 4));
+        Check.fails("24: unreachable, no variable", Check.INDEX, () -> x.source(5, -1, true));
+        Check.fails("25: unreachable, no action", Check.INDEX, () -> x.sourceOfUse(5, 1));
+        Check.fails("25: unreachable, no use", Check.STATE, () -> x.sourceOfUse(5, 0));
+        Check.fails("26: unreachable, no variable", Check.INDEX, () -> x.operand(5, 4, 9));
+        Check.fails("26: unreachable, no predecessor", Check.STATE, () -> x.operand(5, 0, 9));
+        Check.fails("27: unreachable, no variable", Check.INDEX, () -> x.differentOperands(5, 4));
+        Check.fails("30: unreachable, no variable", Check.INDEX, () -> x.reachingCount(5, 4));
+        Check.fails("31: unreachable, no variable", Check.INDEX, () -> x.reaching(5, 4, 0));
+        Check.fails("31: unreachable, no index", Check.STATE, () -> x.reaching(5, 0, -1));
+        Check.fails("32: unreachable, no variable", Check.INDEX, () -> x.isInitialReaching(5, 4));
     }
 }

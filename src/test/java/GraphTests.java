@@ -1,12 +1,5 @@
-import java.util.NoSuchElementException;
-
 /** Promises 1 to 14: the graph, its text and its changes. */
 public final class GraphTests {
-    private static final Class<?> INDEX = IndexOutOfBoundsException.class;
-    private static final Class<?> ARGUMENT = IllegalArgumentException.class;
-    private static final Class<?> STATE = IllegalStateException.class;
-    private static final Class<?> MISSING = NoSuchElementException.class;
-
     public static void main(String[] args) {
         newObject();
         reset();
@@ -37,9 +30,9 @@ public final class GraphTests {
         Check.is("1: clearWalk", x.clearWalk(), 0);
         Check.is("1: input is empty", x.append('a'), 1);
         Check.is("1: newlyReachable", x.newlyReachable(), 0);
-        Check.fails("1: undo", MISSING, x::undo);
-        Check.fails("1: restore", STATE, x::restore);
-        Check.fails("1: errorPosition", MISSING, x::errorPosition);
+        Check.fails("1: undo", Check.MISSING, x::undo);
+        Check.fails("1: restore", Check.STATE, x::restore);
+        Check.fails("1: errorPosition", Check.MISSING, x::errorPosition);
     }
 
     private static void reset() {
@@ -50,16 +43,16 @@ public final class GraphTests {
         Check.define(x, "a:d0u1>bc");
         Check.type(x, "b:");
         x.walk(0);
-        Check.fails("2: 0 blocks", ARGUMENT, () -> x.reset(0));
-        Check.fails("2: 15 blocks", ARGUMENT, () -> x.reset(15));
-        Check.fails("2: -1 blocks", ARGUMENT, () -> x.reset(-1));
-        Check.fails("2: least int", ARGUMENT, () -> x.reset(Integer.MIN_VALUE));
+        Check.fails("2: 0 blocks", Check.ARGUMENT, () -> x.reset(0));
+        Check.fails("2: 15 blocks", Check.ARGUMENT, () -> x.reset(15));
+        Check.fails("2: -1 blocks", Check.ARGUMENT, () -> x.reset(-1));
+        Check.fails("2: least int", Check.ARGUMENT, () -> x.reset(Integer.MIN_VALUE));
         Check.is("2: unchanged", Check.show(x), "a:d0u1>bc b: c:");
         Check.is("2: walk unchanged", x.walkEnd(), 1);
         Check.is("2: third", x.reset(3), 3);
         Check.is("2: emptied", Check.show(x), "a: b: c:");
         Check.is("2: walk emptied", x.clearWalk(), 0);
-        Check.fails("2: changes forgotten", MISSING, x::undo);
+        Check.fails("2: changes forgotten", Check.MISSING, x::undo);
         Check.is("2: report is empty", x.newlyReachable(), 0);
         Check.is("2: input stays", x.append('d'), 3);
         x.reset(1);
@@ -69,18 +62,18 @@ public final class GraphTests {
 
     private static void append() {
         SsaRepair x = new SsaRepair();
-        Check.fails("4: 31", ARGUMENT, () -> x.append((char) 31));
-        Check.fails("4: 127", ARGUMENT, () -> x.append((char) 127));
-        Check.fails("4: 65535", ARGUMENT, () -> x.append((char) 65535));
-        Check.fails("4: 0", ARGUMENT, () -> x.append((char) 0));
+        Check.fails("4: 31", Check.ARGUMENT, () -> x.append((char) 31));
+        Check.fails("4: 127", Check.ARGUMENT, () -> x.append((char) 127));
+        Check.fails("4: 65535", Check.ARGUMENT, () -> x.append((char) 65535));
+        Check.fails("4: 0", Check.ARGUMENT, () -> x.append((char) 0));
         Check.is("4: 32", x.append((char) 32), 1);
         Check.is("4: 126", x.append((char) 126), 2);
         for (int length = 3; length <= 30; length++) {
             Check.is("4: length", x.append('a'), length);
         }
-        Check.fails("4: full", STATE, () -> x.append('a'));
-        Check.fails("4: full and out of range", ARGUMENT, () -> x.append((char) 7));
-        Check.fails("4: a full input is no line", ARGUMENT, x::define);
+        Check.fails("4: full", Check.STATE, () -> x.append('a'));
+        Check.fails("4: full and out of range", Check.ARGUMENT, () -> x.append((char) 7));
+        Check.fails("4: a full input is no line", Check.ARGUMENT, x::define);
         Check.is("4: emptied by define", x.append('a'), 1);
     }
 
@@ -96,7 +89,7 @@ public final class GraphTests {
         Check.is("5: a change, though the graph is as before", x.undo(), 3);
         Check.type(x, "c:u");
         x.walk(0);
-        Check.fails("5: not a line", ARGUMENT, x::define);
+        Check.fails("5: not a line", Check.ARGUMENT, x::define);
         Check.is("5: graph stays", Check.show(x), "a:>b b: c:u2");
         Check.is("5: walk stays", x.walkEnd(), 1);
         Check.is("5: input is empty after an exception", x.append('b'), 1);
@@ -115,13 +108,13 @@ public final class GraphTests {
 
     private static void errorPosition() {
         SsaRepair x = new SsaRepair();
-        Check.fails("6: none kept", MISSING, x::errorPosition);
+        Check.fails("6: none kept", Check.MISSING, x::errorPosition);
         Check.define(x, "a:");
-        Check.fails("6: none kept by a line", MISSING, x::errorPosition);
-        Check.fails("6: empty input", ARGUMENT, x::define);
+        Check.fails("6: none kept by a line", Check.MISSING, x::errorPosition);
+        Check.fails("6: empty input", Check.ARGUMENT, x::define);
         Check.is("6: empty input", x.errorPosition(), 0);
         Check.type(x, "a:d0d");
-        Check.fails("6: cut", ARGUMENT, x::define);
+        Check.fails("6: cut", Check.ARGUMENT, x::define);
         Check.is("6: cut", x.errorPosition(), 5);
         Check.define(x, "a:d0");
         Check.is("6: stays after a line", x.errorPosition(), 5);
@@ -171,17 +164,17 @@ public final class GraphTests {
     private static void errorIn(int blocks, String text, int due) {
         SsaRepair x = Check.graph(blocks);
         Check.type(x, text);
-        Check.fails("6: " + text, ARGUMENT, x::define);
+        Check.fails("6: " + text, Check.ARGUMENT, x::define);
         Check.is("6: error position of " + text, x.errorPosition(), due);
-        Check.fails("6: no change by " + text, MISSING, x::undo);
+        Check.fails("6: no change by " + text, Check.MISSING, x::undo);
     }
 
     private static void removeAction() {
         SsaRepair x = Check.graph(2, "a:d0u1d2>b", "b:u3");
-        Check.fails("7: action 3", INDEX, () -> x.removeAction(0, 3));
-        Check.fails("7: action -1", INDEX, () -> x.removeAction(0, -1));
-        Check.fails("7: block 2", INDEX, () -> x.removeAction(2, 0));
-        Check.fails("7: block -1", INDEX, () -> x.removeAction(-1, 0));
+        Check.fails("7: action 3", Check.INDEX, () -> x.removeAction(0, 3));
+        Check.fails("7: action -1", Check.INDEX, () -> x.removeAction(0, -1));
+        Check.fails("7: block 2", Check.INDEX, () -> x.removeAction(2, 0));
+        Check.fails("7: block -1", Check.INDEX, () -> x.removeAction(-1, 0));
         Check.is("7: no change", x.undo(), 1);
         Check.define(x, "b:u3");
         x.walk(0);
@@ -190,7 +183,7 @@ public final class GraphTests {
         Check.is("7: the walk is empty", x.clearWalk(), 0);
         Check.is("7: the last", x.removeAction(0, 1), 1);
         Check.is("7: the only", x.removeAction(0, 0), 0);
-        Check.fails("7: none is left", INDEX, () -> x.removeAction(0, 0));
+        Check.fails("7: none is left", Check.INDEX, () -> x.removeAction(0, 0));
         Check.is("7: others stay", Check.show(x), "a:>b b:u3");
         Check.is("7: undo", x.undo(), 4);
         Check.is("7: undone", Check.show(x), "a:u1>b b:u3");
@@ -210,18 +203,18 @@ public final class GraphTests {
         Check.is("8: to itself", x.addEdge(1, 1), 1);
         x.addEdge(0, 1);
         x.walk(0);
-        Check.fails("8: to block 0", ARGUMENT, () -> x.addEdge(1, 0));
-        Check.fails("8: exists", ARGUMENT, () -> x.addEdge(1, 3));
-        Check.fails("8: from 6", INDEX, () -> x.addEdge(6, 1));
-        Check.fails("8: to 6", INDEX, () -> x.addEdge(1, 6));
-        Check.fails("8: from -1 to 0", INDEX, () -> x.addEdge(-1, 0));
-        Check.fails("8: to -1", INDEX, () -> x.addEdge(1, -1));
+        Check.fails("8: to block 0", Check.ARGUMENT, () -> x.addEdge(1, 0));
+        Check.fails("8: exists", Check.ARGUMENT, () -> x.addEdge(1, 3));
+        Check.fails("8: from 6", Check.INDEX, () -> x.addEdge(6, 1));
+        Check.fails("8: to 6", Check.INDEX, () -> x.addEdge(1, 6));
+        Check.fails("8: from -1 to 0", Check.INDEX, () -> x.addEdge(-1, 0));
+        Check.fails("8: to -1", Check.INDEX, () -> x.addEdge(1, -1));
         Check.is("8: walk stays", x.walkEnd(), 1);
         Check.is("8: third", x.addEdge(1, 2), 2);
         Check.is("8: walk is empty", x.clearWalk(), 0);
-        Check.fails("8: fourth", STATE, () -> x.addEdge(1, 4));
-        Check.fails("8: full and exists", ARGUMENT, () -> x.addEdge(1, 2));
-        Check.fails("8: full and to block 0", ARGUMENT, () -> x.addEdge(1, 0));
+        Check.fails("8: fourth", Check.STATE, () -> x.addEdge(1, 4));
+        Check.fails("8: full and exists", Check.ARGUMENT, () -> x.addEdge(1, 2));
+        Check.fails("8: full and to block 0", Check.ARGUMENT, () -> x.addEdge(1, 0));
         Check.is("8: graph", Check.show(x), "a:>b b:>dbc c: d: e: f:");
         Check.is("8: changes", x.undo(), 3);
     }
@@ -229,13 +222,13 @@ public final class GraphTests {
     private static void removeEdge() {
         SsaRepair x = Check.graph(5, "a:>bcd", "b:>b");
         x.walk(0);
-        Check.fails("9: no edge", MISSING, () -> x.removeEdge(0, 4));
-        Check.fails("9: to block 0", MISSING, () -> x.removeEdge(1, 0));
-        Check.fails("9: other way", MISSING, () -> x.removeEdge(2, 0));
-        Check.fails("9: from 5", INDEX, () -> x.removeEdge(5, 1));
-        Check.fails("9: to 5", INDEX, () -> x.removeEdge(0, 5));
-        Check.fails("9: from -1", INDEX, () -> x.removeEdge(-1, 1));
-        Check.fails("9: to -1", INDEX, () -> x.removeEdge(0, -1));
+        Check.fails("9: no edge", Check.MISSING, () -> x.removeEdge(0, 4));
+        Check.fails("9: to block 0", Check.MISSING, () -> x.removeEdge(1, 0));
+        Check.fails("9: other way", Check.MISSING, () -> x.removeEdge(2, 0));
+        Check.fails("9: from 5", Check.INDEX, () -> x.removeEdge(5, 1));
+        Check.fails("9: to 5", Check.INDEX, () -> x.removeEdge(0, 5));
+        Check.fails("9: from -1", Check.INDEX, () -> x.removeEdge(-1, 1));
+        Check.fails("9: to -1", Check.INDEX, () -> x.removeEdge(0, -1));
         Check.is("9: walk stays", x.walkEnd(), 1);
         Check.is("9: first", x.removeEdge(0, 1), 2);
         Check.is("9: walk is empty", x.clearWalk(), 0);
@@ -250,13 +243,13 @@ public final class GraphTests {
     private static void thread() {
         SsaRepair x = Check.graph(5, "a:>bc", "b:u0d0>dec", "c:>b");
         x.walk(0);
-        Check.fails("10: p", INDEX, () -> x.thread(5, 1, 2));
-        Check.fails("10: b", INDEX, () -> x.thread(0, 5, 2));
-        Check.fails("10: t", INDEX, () -> x.thread(0, 1, 5));
-        Check.fails("10: -1", INDEX, () -> x.thread(0, 1, -1));
-        Check.fails("10: no first edge", MISSING, () -> x.thread(0, 3, 2));
-        Check.fails("10: no second edge", MISSING, () -> x.thread(0, 2, 3));
-        Check.fails("10: through block 0", MISSING, () -> x.thread(2, 0, 1));
+        Check.fails("10: p", Check.INDEX, () -> x.thread(5, 1, 2));
+        Check.fails("10: b", Check.INDEX, () -> x.thread(0, 5, 2));
+        Check.fails("10: t", Check.INDEX, () -> x.thread(0, 1, 5));
+        Check.fails("10: -1", Check.INDEX, () -> x.thread(0, 1, -1));
+        Check.fails("10: no first edge", Check.MISSING, () -> x.thread(0, 3, 2));
+        Check.fails("10: no second edge", Check.MISSING, () -> x.thread(0, 2, 3));
+        Check.fails("10: through block 0", Check.MISSING, () -> x.thread(2, 0, 1));
         Check.is("10: walk stays", x.walkEnd(), 1);
         Check.is("10: answer", x.thread(0, 1, 4), 5);
         Check.is("10: graph", Check.show(x), "a:>fc b:u0d0>dec c:>b d: e: f:u0d0>e");
@@ -264,9 +257,9 @@ public final class GraphTests {
         Check.is("10: undo", x.undo(), 3);
         Check.is("10: undone", Check.show(x), "a:>bc b:u0d0>dec c:>b d: e:");
         SsaRepair full = Check.graph(14, "a:>b", "b:>c");
-        Check.fails("10: 14 blocks", STATE, () -> full.thread(0, 1, 2));
-        Check.fails("10: 14 blocks and no edge", MISSING, () -> full.thread(0, 2, 1));
-        Check.fails("10: 14 blocks and no block", INDEX, () -> full.thread(0, 1, 14));
+        Check.fails("10: 14 blocks", Check.STATE, () -> full.thread(0, 1, 2));
+        Check.fails("10: 14 blocks and no edge", Check.MISSING, () -> full.thread(0, 2, 1));
+        Check.fails("10: 14 blocks and no block", Check.INDEX, () -> full.thread(0, 1, 14));
         SsaRepair last = Check.graph(13, "a:>b", "b:>c");
         Check.is("10: the 14th", last.thread(0, 1, 2), 13);
     }
@@ -297,27 +290,27 @@ public final class GraphTests {
         Check.is("11: two", x.actionCount(0), 2);
         Check.is("11: none", x.actionCount(1), 0);
         Check.is("11: six", x.actionCount(2), 6);
-        Check.fails("11: block 3", INDEX, () -> x.actionCount(3));
-        Check.fails("11: block -1", INDEX, () -> x.actionCount(-1));
+        Check.fails("11: block 3", Check.INDEX, () -> x.actionCount(3));
+        Check.fails("11: block -1", Check.INDEX, () -> x.actionCount(-1));
         Check.is("12: definition", x.action(0, 0), 3);
         Check.is("12: use", x.action(0, 1), 12);
         Check.is("12: use of 0", x.action(2, 0), 10);
         Check.is("12: definition of 0", x.action(2, 1), 0);
-        Check.fails("12: action 2", INDEX, () -> x.action(0, 2));
-        Check.fails("12: action -1", INDEX, () -> x.action(0, -1));
-        Check.fails("12: action 6", INDEX, () -> x.action(2, 6));
-        Check.fails("12: block 3", INDEX, () -> x.action(3, 0));
-        Check.fails("12: block -1", INDEX, () -> x.action(-1, 0));
+        Check.fails("12: action 2", Check.INDEX, () -> x.action(0, 2));
+        Check.fails("12: action -1", Check.INDEX, () -> x.action(0, -1));
+        Check.fails("12: action 6", Check.INDEX, () -> x.action(2, 6));
+        Check.fails("12: block 3", Check.INDEX, () -> x.action(3, 0));
+        Check.fails("12: block -1", Check.INDEX, () -> x.action(-1, 0));
         Check.is("13: two", x.edgeCount(0), 2);
         Check.is("13: none", x.edgeCount(2), 0);
-        Check.fails("13: block 3", INDEX, () -> x.edgeCount(3));
-        Check.fails("13: block -1", INDEX, () -> x.edgeCount(-1));
+        Check.fails("13: block 3", Check.INDEX, () -> x.edgeCount(3));
+        Check.fails("13: block -1", Check.INDEX, () -> x.edgeCount(-1));
         Check.is("14: first", x.target(0, 0), 2);
         Check.is("14: second", x.target(0, 1), 1);
-        Check.fails("14: edge 2", INDEX, () -> x.target(0, 2));
-        Check.fails("14: edge -1", INDEX, () -> x.target(0, -1));
-        Check.fails("14: block 3", INDEX, () -> x.target(3, 0));
-        Check.fails("14: block -1", INDEX, () -> x.target(-1, 0));
-        Check.fails("14: largest int", INDEX, () -> x.target(Integer.MAX_VALUE, Integer.MAX_VALUE));
+        Check.fails("14: edge 2", Check.INDEX, () -> x.target(0, 2));
+        Check.fails("14: edge -1", Check.INDEX, () -> x.target(0, -1));
+        Check.fails("14: block 3", Check.INDEX, () -> x.target(3, 0));
+        Check.fails("14: block -1", Check.INDEX, () -> x.target(-1, 0));
+        Check.fails("14: largest int", Check.INDEX, () -> x.target(Integer.MAX_VALUE, Integer.MAX_VALUE));
     }
 }
