@@ -1,5 +1,5 @@
-import java.util.function.Consumer;
 import java.util.function.Supplier;
+import java.util.function.ToIntFunction;
 
 /** The sentences of promises 33 to 46: reports of changes, undo, walks and saving. */
 final class ChangeBoundaries {
@@ -29,25 +29,29 @@ final class ChangeBoundaries {
         restore();
     }
 
-    /** d merges 0 to 3 and uses them, once c leads to d. */
-    private static SsaRepair halfDiamond() {
-        return Check.graph(4, "a:>bc", "b:d0d1d2d3>d", "c:", "d:u0u1u2u3");
+    /** The last change, an edge from c to d, makes d a merge of 0 to 3, which it uses. */
+    private static SsaRepair diamond() {
+        SsaRepair x = Check.graph(4, "a:>bc", "b:d0d1d2d3>d", "c:", "d:u0u1u2u3");
+        x.addEdge(2, 3);
+        return x;
     }
 
-    /** The ways to an empty report, from an object whose report is not empty. */
-    private static void empty(Supplier<SsaRepair> made, Consumer<SsaRepair> isEmpty) {
+    /** All ways to an empty report, from an object whose report is not empty. */
+    private static void empty(Supplier<SsaRepair> made, ToIntFunction<SsaRepair> report, int before) {
+        Check.is("not empty", report.applyAsInt(made.get()), before);
+        Check.is("new object", report.applyAsInt(new SsaRepair()), 0);
         SsaRepair undone = made.get();
-        while (!Check.answer(undone::undo).startsWith("throws")) {
-            continue;
+        for (int change = 0; change < 8; change++) {
+            Check.answer(undone::undo);
         }
-        isEmpty.accept(undone);
+        Check.is("all undone", report.applyAsInt(undone), 0);
         SsaRepair reset = made.get();
         reset.reset(4);
-        isEmpty.accept(reset);
+        Check.is("reset", report.applyAsInt(reset), 0);
         SsaRepair restored = made.get();
         restored.save();
         restored.restore();
-        isEmpty.accept(restored);
+        Check.is("restored", report.applyAsInt(restored), 0);
         SsaRepair forgotten = made.get();
         for (int change = 0; change < 8; change++) {
             Check.define(forgotten, "a:");
@@ -55,16 +59,14 @@ final class ChangeBoundaries {
         for (int change = 0; change < 8; change++) {
             forgotten.undo();
         }
-        isEmpty.accept(forgotten);
-        isEmpty.accept(new SsaRepair());
+        Check.is("not remembered", report.applyAsInt(forgotten), 0);
     }
 
     private static void addedMerges() {
         Doc.promise(33);
         Doc.says("Returns the number of pairs of a variable and a block that is a merge of it, but was not before the "
                 + "change: it did not exist, or was not a merge then.");
-        SsaRepair x = halfDiamond();
-        x.addEdge(2, 3);
+        SsaRepair x = diamond();
         Check.is("four variables", x.addedMerges(), 4);
         x.addEdge(3, 2);
         Check.is("the block c for each, d was one", x.addedMerges(), 4);
@@ -77,20 +79,14 @@ final class ChangeBoundaries {
         y.addEdge(13, 13);
         Check.is("a new block becomes one", y.addedMerges(), 1);
         Doc.says("Returns the number of pairs, 0 if the report is empty.");
-        empty(() -> {
-            SsaRepair made = halfDiamond();
-            made.addEdge(2, 3);
-            Check.is("not empty", made.addedMerges(), 4);
-            return made;
-        }, made -> Check.is("empty", made.addedMerges(), 0));
+        empty(ChangeBoundaries::diamond, SsaRepair::addedMerges, 4);
     }
 
     private static void removedMerges() {
         Doc.promise(34);
         Doc.says("Returns the number of pairs of a variable and a block that was a merge of it before the change, "
                 + "but is not now.");
-        SsaRepair x = halfDiamond();
-        x.addEdge(2, 3);
+        SsaRepair x = diamond();
         Check.is("added ones do not count", x.removedMerges(), 0);
         x.removeAction(3, 0);
         Check.is("one is no longer live", x.removedMerges(), 1);
@@ -104,19 +100,16 @@ final class ChangeBoundaries {
         Check.is("the blocks can't be reached any more", x.removedMerges(), 3);
         Doc.says("Returns the number of pairs, 0 if the report is empty.");
         empty(() -> {
-            SsaRepair made = halfDiamond();
-            made.addEdge(2, 3);
+            SsaRepair made = diamond();
             made.removeEdge(2, 3);
-            Check.is("not empty", made.removedMerges(), 4);
             return made;
-        }, made -> Check.is("empty", made.removedMerges(), 0));
+        }, SsaRepair::removedMerges, 4);
     }
 
     private static void changedUses() {
         Doc.promise(35);
         Doc.says("Returns the number of uses whose source has changed.");
-        SsaRepair x = halfDiamond();
-        x.addEdge(2, 3);
+        SsaRepair x = diamond();
         Check.is("four", x.changedUses(), 4);
         x.addEdge(3, 3);
         Check.is("the merges stay", x.changedUses(), 0);
@@ -125,12 +118,7 @@ final class ChangeBoundaries {
         SsaRepair most = Check.graph(14, "b:u0u0u0u0u0u0>c", "c:u0u0u0u0u0u0>n", "n:u0u0u0u0u0u0", "a:>b", "a:d0>b");
         Check.is("all", most.changedUses(), 18);
         Doc.says("Returns the number of uses, 0 if the report is empty.");
-        empty(() -> {
-            SsaRepair made = halfDiamond();
-            made.addEdge(2, 3);
-            Check.is("not empty", made.changedUses(), 4);
-            return made;
-        }, made -> Check.is("empty", made.changedUses(), 0));
+        empty(ChangeBoundaries::diamond, SsaRepair::changedUses, 4);
     }
 
     private static void changedUsesByNumber() {
@@ -181,11 +169,7 @@ final class ChangeBoundaries {
         away.thread(1, 2, 3);
         Check.is("a new block that can't be reached", away.newlyReachable(), 0);
         Doc.says("Returns the set of blocks, empty if the report is empty.");
-        empty(() -> {
-            SsaRepair made = Check.graph(2, "a:>b");
-            Check.is("not empty", made.newlyReachable(), Check.set(1));
-            return made;
-        }, made -> Check.is("empty", made.newlyReachable(), 0));
+        empty(() -> Check.graph(2, "a:>b"), SsaRepair::newlyReachable, Check.set(1));
     }
 
     private static void undo() {
