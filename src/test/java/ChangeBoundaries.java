@@ -1,3 +1,4 @@
+import java.util.function.Consumer;
 import java.util.function.Supplier;
 import java.util.function.ToIntFunction;
 
@@ -36,30 +37,35 @@ final class ChangeBoundaries {
         return x;
     }
 
-    /** All ways to an empty report, from an object whose report is not empty. */
+    /** All ways to an empty report, from an object whose report was not empty when it was asked for before. */
     private static void empty(Supplier<SsaRepair> made, ToIntFunction<SsaRepair> report, int before) {
-        Check.is("not empty", report.applyAsInt(made.get()), before);
         Check.is("new object", report.applyAsInt(new SsaRepair()), 0);
-        SsaRepair undone = made.get();
-        for (int change = 0; change < 8; change++) {
-            Check.answer(undone::undo);
+        emptied("all undone", made, report, before, x -> undoUpTo(x, 8));
+        emptied("reset", made, report, before, x -> x.reset(4));
+        emptied("restored", made, report, before, x -> {
+            x.save();
+            x.restore();
+        });
+        emptied("not remembered", made, report, before, x -> {
+            for (int change = 0; change < 8; change++) {
+                Check.define(x, "a:");
+            }
+            undoUpTo(x, 8);
+        });
+    }
+
+    private static void emptied(String what, Supplier<SsaRepair> made, ToIntFunction<SsaRepair> report, int before,
+            Consumer<SsaRepair> way) {
+        SsaRepair x = made.get();
+        Check.is("before: " + what, report.applyAsInt(x), before);
+        way.accept(x);
+        Check.is(what, report.applyAsInt(x), 0);
+    }
+
+    private static void undoUpTo(SsaRepair x, int most) {
+        for (int change = 0; change < most; change++) {
+            Check.answer(x::undo);
         }
-        Check.is("all undone", report.applyAsInt(undone), 0);
-        SsaRepair reset = made.get();
-        reset.reset(4);
-        Check.is("reset", report.applyAsInt(reset), 0);
-        SsaRepair restored = made.get();
-        restored.save();
-        restored.restore();
-        Check.is("restored", report.applyAsInt(restored), 0);
-        SsaRepair forgotten = made.get();
-        for (int change = 0; change < 8; change++) {
-            Check.define(forgotten, "a:");
-        }
-        for (int change = 0; change < 8; change++) {
-            forgotten.undo();
-        }
-        Check.is("not remembered", report.applyAsInt(forgotten), 0);
     }
 
     private static void addedMerges() {
