@@ -33,9 +33,12 @@ public final class FaceTests {
 
     private static void face() throws Exception {
         Set<String> due = new TreeSet<>();
+        Set<String> promised = new TreeSet<>();
         for (String line : Files.readAllLines(DOCUMENT)) {
             if (line.startsWith("    public ") && line.endsWith(";")) {
-                due.add(plain(line.trim().replaceAll("(\\(|, )(\\w+) \\w+", "$1$2")));
+                due.add(plain(withoutNames(line.trim())));
+            } else if (line.matches("`[^`]+`")) {
+                promised.add(plain(withoutNames("public " + line.replace("`", "") + ";")));
             }
         }
         Set<String> found = new TreeSet<>();
@@ -48,8 +51,13 @@ public final class FaceTests {
             }
         }
         Check.is("face", found, due);
+        Check.is("face of the promises", found, promised);
         Check.is("face: members", due.size(), 46);
         Check.is("class is public and final", SsaRepair.class.getModifiers(), Modifier.PUBLIC | Modifier.FINAL);
+    }
+
+    private static String withoutNames(String signature) {
+        return signature.replaceAll("(\\(|, )(\\w+) \\w+", "$1$2");
     }
 
     private static String plain(String signature) {
