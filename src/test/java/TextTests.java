@@ -79,7 +79,7 @@ public final class TextTests {
         while (due < text.length() && isStart(text.substring(0, due + 1))) {
             due++;
         }
-        Check.is(what + ": error position", x.errorPosition(), due);
+        Check.is(what + ": error position", Check.answer(x::errorPosition), String.valueOf(due));
         Check.is(what + ": input", x.append('a'), 1);
     }
 }
