@@ -3,7 +3,7 @@ import java.util.Map;
 import java.util.regex.Pattern;
 
 /**
- * Every short text over the signs of lines, and every text that differs from a full line in one sign: whether it is a
+ * Every text of up to five of the signs of lines, and full lines with one sign put in or replaced: whether it is a
  * line, and the error position as it is worded, by looking for a line that starts as the text does.
  */
 public final class TextTests {
@@ -35,7 +35,7 @@ public final class TextTests {
 
     private void all(String text) {
         test(text);
-        if (text.length() < LENGTH && isStart(text)) {
+        if (text.length() < LENGTH) {
             for (char sign : SIGNS.toCharArray()) {
                 all(text + sign);
             }
